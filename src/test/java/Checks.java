@@ -1,0 +1,46 @@
+/** What the tests share: it counts checks, and prints each answer that is not the one that is due. */
+final class Checks {
+    private static int made = 0;
+    private static int wrong = 0;
+
+    private Checks() {
+    }
+
+    static void due(String call, long got, long want) {
+        made++;
+        if (got != want) {
+            complain(call + " answered " + got + ", due is " + want);
+        }
+    }
+
+    static void due(String call, boolean got, boolean want) {
+        due(call, got ? 1 : 0, want ? 1 : 0);
+    }
+
+    /** Exactly the exception that is due: one of a class below it would not do. */
+    static void throwsDue(String call, Class<? extends RuntimeException> want, Runnable body) {
+        made++;
+        try {
+            body.run();
+            complain(call + " threw nothing, due is " + want.getSimpleName());
+        } catch (RuntimeException e) {
+            if (e.getClass() != want) {
+                complain(call + " threw " + e.getClass().getName() + ", due is " + want.getSimpleName());
+            }
+        }
+    }
+
+    static void complain(String text) {
+        wrong++;
+        if (wrong <= 40) {
+            System.out.println(text);
+        }
+    }
+
+    static void end() {
+        System.out.println(made + " checks, " + wrong + " wrong");
+        if (wrong != 0 || made == 0) {
+            System.exit(1);
+        }
+    }
+}
