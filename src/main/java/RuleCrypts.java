@@ -473,7 +473,7 @@ public final class RuleCrypts {
         }
 
         void applyTo(int[] rules) {
-            if (rule < 0 || rule >= rules.length || rule >= RULES) {
+            if (rule < 0 || rule >= RULES || rule >= rules.length) {
                 return;
             }
             int wanted = sets ? number : rules[rule] + number;

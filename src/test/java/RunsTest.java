@@ -60,7 +60,8 @@ public final class RunsTest {
     private static List<Integer> wayTo(RuleCrypts x, int dungeon, int floor, int room) {
         List<Integer> keys = new ArrayList<>();
         int here = room;
-        while (x.way(dungeon, floor, here) > 0) {
+        // No way is longer than 15 doors; the bound lets a broken class fail instead of going on for ever.
+        for (int i = 0; i < 16 && x.way(dungeon, floor, here) > 0; i++) {
             for (int direction = 0; direction < 4; direction++) {
                 if (x.hasDoor(dungeon, floor, here, direction)
                         && x.way(dungeon, floor, here + STEP[direction]) < x.way(dungeon, floor, here)) {
