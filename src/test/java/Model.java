@@ -336,7 +336,7 @@ final class Model {
     }
 
     /** The six numbers and the seed of today's dungeon; null if there is none. */
-    private int[] identityToday() {
+    int[] identityToday() {
         if (days.isEmpty()) {
             return null;
         }

@@ -10,6 +10,7 @@ final class ModelFloor {
     final int[] monster = new int[16];
     final Set<Integer> treasure = new HashSet<>();
     final int[] way = new int[16];
+    final int[][] far = new int[16][16];
     final int entry;
     final int stairs;
 
@@ -76,7 +77,6 @@ final class ModelFloor {
 
     /** Fills the ways by shortening over each room in between; answers the farthest room. */
     private int measure() {
-        int[][] far = new int[16][16];
         for (int a = 0; a < 16; a++) {
             for (int b = 0; b < 16; b++) {
                 far[a][b] = a == b ? 0 : doors.contains(Math.min(a, b) + "-" + Math.max(a, b)) ? 1 : 99;

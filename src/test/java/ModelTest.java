@@ -1,3 +1,4 @@
+import java.util.Arrays;
 import java.util.List;
 
 /**
@@ -9,6 +10,19 @@ public final class ModelTest {
     private static final int ROWS = 1500;
     private static final int CALLS = 512;
     private static final int WRONG_ONE_IN = 25;
+    private static final int OFTEN = 50;
+
+    /** Right runs by their ends, then limits that were reached, then ranks behind the first one. */
+    private static final int[] SEEN = new int[9];
+
+    /** Rows of five kinds: all of it, many packs, many days and dungeons, many runs, long runs. */
+    private static final int[][] KINDS = {
+        // pack, change, mend, needs, open, key, wipe, handIn, judge
+        {4, 10, 4, 4, 4, 60, 1, 12, 14},
+        {20, 40, 8, 30, 8, 70, 0, 1, 4},
+        {2, 10, 4, 0, 26, 4, 1, 45, 4},
+        {1, 2, 1, 1, 2, 60, 1, 30, 30},
+        {0, 1, 1, 0, 1, 200, 0, 5, 8}};
 
     private interface Call {
         long answer();
@@ -29,25 +43,50 @@ public final class ModelTest {
         for (int row = 0; row < ROWS; row++) {
             new ModelTest(row).run();
         }
+        for (int i = 0; i < SEEN.length; i++) {
+            Checks.due("seen often: " + i + " in " + Arrays.toString(SEEN), SEEN[i] >= OFTEN, true);
+        }
         Checks.end();
     }
 
-    /** Rows of four kinds: all of it, many packs, many days and dungeons, many runs. */
-    private static final int[][] KINDS = {
-        // pack, change, mend, needs, open, key, wipe, handIn, judge
-        {4, 10, 4, 4, 4, 60, 1, 12, 14},
-        {20, 40, 8, 30, 8, 10, 1, 4, 4},
-        {2, 10, 6, 3, 30, 10, 1, 40, 20},
-        {1, 2, 1, 1, 2, 60, 1, 30, 30}};
-
     private void run() {
         weights = KINDS[row % KINDS.length];
-        for (int call = 0; call < CALLS; call++) {
+        int prepared = row % KINDS.length == 4 ? prepare() : 0;
+        for (int call = prepared; call < CALLS; call++) {
             if (drawn(2) == 0) {
                 change(call);
             } else {
                 ask(call);
             }
+        }
+        tally();
+    }
+
+    /** A day of its own for long runs, every other one with monsters that kill; answers how many calls it took. */
+    private int prepare() {
+        same(0, "pack", x::pack, m::pack);
+        int[][] changes = {{1, 20}, {2, 1 + drawn(9)}, {4, 1 + drawn(30)}, {0, drawn(21)}};
+        int count = drawn(2) == 0 ? 4 : 0;
+        for (int i = 0; i < count; i++) {
+            int[] change = changes[i];
+            same(1 + i, "change", () -> x.change(0, change[0], true, change[1]),
+                    () -> m.change(0, change[0], true, change[1]));
+        }
+        int seed = drawn(65536);
+        same(1 + count, "open", () -> x.open(seed, 1), () -> m.open(seed, 1));
+        return 2 + count;
+    }
+
+    /** Counts what the row came to: rows that never reach an end or a limit would test little. */
+    private void tally() {
+        for (int run = 0; run < m.runs(); run++) {
+            SEEN[m.endOf(run)] += m.verdict(run) == -1 ? 1 : 0;
+            SEEN[8] += m.rank(run) > 0 ? 1 : 0;
+        }
+        int[] counts = {m.packs(), m.days.size(), m.draft.size(), m.dungeons(), m.runs()};
+        int[] limits = {10, 30, 60, 20, 60};
+        for (int i = 0; i < limits.length; i++) {
+            SEEN[3 + i] += counts[i] == limits[i] ? 1 : 0;
         }
     }
 
@@ -128,9 +167,12 @@ public final class ModelTest {
 
     private void changeRuns(int call, int which) {
         if (which == 4) {
-            int seed = drawn(8) == 0 ? number(65536) : drawn(12);
+            // Few seeds in every third row, so that days come back to dungeons that were had.
+            int seed = row % 3 == 0 ? drawn(12) : number(65536);
             int set = drawn(3) == 0 ? 0 : set();
             same(call, "open", () -> x.open(seed, set), () -> m.open(seed, set));
+        } else if (which == 5 && row % KINDS.length > 2 && isSpent() && drawn(4) != 0) {
+            changeRuns(call, 7);
         } else if (which == 5) {
             int key = goodKey();
             same(call, "key", () -> x.key(key), () -> m.key(key));
@@ -148,13 +190,27 @@ public final class ModelTest {
 
     private ModelDungeon likelyDungeon() {
         int today = m.dungeonToday();
-        return today >= 0 ? m.dungeons.get(today) : null;
+        if (today >= 0) {
+            return m.dungeons.get(today);
+        }
+        int[] identity = m.identityToday();
+        return identity == null ? null : new ModelDungeon(identity);
+    }
+
+    /** Whether no further key of the draft can be. */
+    private boolean isSpent() {
+        ModelDungeon dungeon = likelyDungeon();
+        if (dungeon == null) {
+            return false;
+        }
+        Model.Played played = Model.play(dungeon, m.draft);
+        return played.end != 0 || played.turns < m.draft.size();
     }
 
     /** Mostly a key that can be, so that runs go far. */
     private int goodKey() {
         ModelDungeon dungeon = likelyDungeon();
-        if (dungeon == null || drawn(20) == 0) {
+        if (dungeon == null || drawn(40) == 0) {
             return number(6);
         }
         Model.Played played = Model.play(dungeon, m.draft);
@@ -162,24 +218,17 @@ public final class ModelTest {
         if (played.room == floor.stairs && drawn(4) != 0) {
             return 4;
         }
-        int[] order = {0, 1, 2, 3};
-        int best = drawn(10) == 0 ? 5 : drawn(4);
-        for (int key : order) {
-            if (floor.door(played.room, key) && nearer(floor, played.room, key) && drawn(3) != 0) {
-                best = key;
+        int start = drawn(4);
+        boolean strays = drawn(6) == 0;
+        for (int i = start; i < start + 4; i++) {
+            int key = i % 4;
+            int next = ModelFloor.beside(played.room, key);
+            if (floor.door(played.room, key)
+                    && (strays || floor.far[next][floor.stairs] < floor.far[played.room][floor.stairs])) {
+                return key;
             }
         }
-        return best;
-    }
-
-    /** Whether a room beside another is nearer to the corner of the stairs, by rows and columns. */
-    private static boolean nearer(ModelFloor floor, int room, int key) {
-        int next = ModelFloor.beside(room, key);
-        return apart(next, floor.stairs) < apart(room, floor.stairs);
-    }
-
-    private static int apart(int room, int other) {
-        return Math.abs(room / 4 - other / 4) + Math.abs(room % 4 - other % 4);
+        return 5;
     }
 
     private int goodClaim() {
