@@ -2,6 +2,7 @@
 final class Checks {
     private static int made = 0;
     private static int wrong = 0;
+    private static String about = "";
 
     private Checks() {
     }
@@ -15,6 +16,26 @@ final class Checks {
 
     static void due(String call, boolean got, boolean want) {
         due(call, got ? 1 : 0, want ? 1 : 0);
+    }
+
+    static void due(String call, Object got, Object want) {
+        made++;
+        if (!got.equals(want)) {
+            complain(call + " answered " + got + ", due is " + want);
+        }
+    }
+
+    /** What the next checks are about is printed ahead of each complaint. */
+    static void about(String text) {
+        about = text.isEmpty() ? "" : text + ": ";
+    }
+
+    static int made() {
+        return made;
+    }
+
+    static int wrong() {
+        return wrong;
     }
 
     /** Exactly the exception that is due: one of a class below it would not do. */
@@ -33,7 +54,7 @@ final class Checks {
     static void complain(String text) {
         wrong++;
         if (wrong <= 40) {
-            System.out.println(text);
+            System.out.println(about + text);
         }
     }
 

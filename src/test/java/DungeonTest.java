@@ -17,9 +17,10 @@ public final class DungeonTest {
         byHand();
         for (int[] rules : RULES) {
             for (int seed : SEEDS) {
-                RuleCrypts x = withDungeon(seed, rules);
                 ModelDungeon model = new ModelDungeon(withSeed(rules, seed));
                 for (int floor = 0; floor < 3; floor++) {
+                    // Each floor by an object of its own: one is used for at most 512 calls.
+                    RuleCrypts x = Crypts.grown(seed, rules);
                     sameAsModel(x, model.floors.get(floor), floor);
                     wellMade(x, floor);
                 }
@@ -33,18 +34,6 @@ public final class DungeonTest {
         int[] row = java.util.Arrays.copyOf(rules, 7);
         row[6] = seed;
         return row;
-    }
-
-    private static RuleCrypts withDungeon(int seed, int[] rules) {
-        RuleCrypts x = new RuleCrypts();
-        x.pack();
-        x.pack();
-        for (int rule = 0; rule < 6; rule++) {
-            x.change(rule / 3, rule, true, rules[rule]);
-        }
-        x.open(seed, 3);
-        x.handIn(0, 0);
-        return x;
     }
 
     private static void count() {
@@ -67,7 +56,7 @@ public final class DungeonTest {
 
     /** The seed 0 draws 74, 5624, 28652, 51790: from the room 0 to the right, then from it downwards. */
     private static void byHand() {
-        RuleCrypts x = withDungeon(0, new int[] {0, 0, 1, 0, 1, 0});
+        RuleCrypts x = Crypts.grown(0, new int[] {0, 0, 1, 0, 1, 0});
         Checks.due("19: 0 up", x.hasDoor(0, 0, 0, 0), false);
         Checks.due("19: 0 left", x.hasDoor(0, 0, 0, 1), false);
         Checks.due("19: 0 right", x.hasDoor(0, 0, 0, 2), true);
@@ -120,7 +109,7 @@ public final class DungeonTest {
         none.open(0, 0);
         allThrow("no dungeon was had", none, 0, 0, 0);
         Checks.throwsDue("19: no dungeon was had, no direction", INDEX, () -> none.hasDoor(0, 0, 0, 4));
-        RuleCrypts x = withDungeon(5, RULES[0]);
+        RuleCrypts x = Crypts.grown(5, RULES[0]);
         allThrow("dungeon 1 of one", x, 1, 0, 0);
         allThrow("floor 3", x, 0, 3, 0);
         allThrow("room 16", x, 0, 0, 16);

@@ -4,9 +4,9 @@ public final class PacksTest {
     private static final Class<IllegalArgumentException> ARGUMENT = IllegalArgumentException.class;
     private static final Class<IllegalStateException> STATE = IllegalStateException.class;
 
-    private static final int[] FIRST = {3, 4, 3, 3, 10, 1};
-    private static final int[] LEAST = {0, 0, 1, 0, 1, 0};
-    private static final int[] MOST = {20, 20, 9, 20, 50, 9};
+    private static final int[] FIRST = Crypts.FIRST;
+    private static final int[] LEAST = Crypts.LEAST;
+    private static final int[] MOST = Crypts.MOST;
     private static final int[] WRONG = {-1, Integer.MIN_VALUE, Integer.MAX_VALUE};
 
     public static void main(String[] args) {
@@ -21,14 +21,6 @@ public final class PacksTest {
         orders();
         rules();
         Checks.end();
-    }
-
-    private static RuleCrypts withPacks(int count) {
-        RuleCrypts x = new RuleCrypts();
-        for (int i = 0; i < count; i++) {
-            x.pack();
-        }
-        return x;
     }
 
     private static void newObject() {
@@ -61,7 +53,7 @@ public final class PacksTest {
     }
 
     private static void changes() {
-        RuleCrypts x = withPacks(2);
+        RuleCrypts x = Crypts.withPacks(2);
         for (int i = 1; i <= 4; i++) {
             Checks.due("3: change", x.change(1, 0, false, 1), i);
             Checks.due("12: changes(1)", x.changes(1), i);
@@ -75,7 +67,7 @@ public final class PacksTest {
     }
 
     private static void changesOutOfRange() {
-        RuleCrypts x = withPacks(1);
+        RuleCrypts x = Crypts.withPacks(1);
         for (int r = 0; r < 6; r++) {
             int rule = r;
             Checks.throwsDue("3: set below", ARGUMENT, () -> x.change(0, rule, true, LEAST[rule] - 1));
@@ -105,7 +97,7 @@ public final class PacksTest {
     }
 
     private static void mending() {
-        RuleCrypts x = withPacks(2);
+        RuleCrypts x = Crypts.withPacks(2);
         Checks.throwsDue("4: nothing to mend", STATE, () -> x.mend(0));
         x.change(0, 0, true, 10);
         x.change(0, 0, true, 12);
@@ -126,7 +118,7 @@ public final class PacksTest {
     }
 
     private static void needs() {
-        RuleCrypts x = withPacks(3);
+        RuleCrypts x = Crypts.withPacks(3);
         Checks.due("5: setNeeds", x.setNeeds(0, 6), 0);
         Checks.due("5: setNeeds", x.setNeeds(0, 2), 6);
         Checks.throwsDue("5: itself", ARGUMENT, () -> x.setNeeds(0, 1));
@@ -143,7 +135,7 @@ public final class PacksTest {
     }
 
     private static void setsWithOtherBits() {
-        RuleCrypts x = withPacks(2);
+        RuleCrypts x = Crypts.withPacks(2);
         int[] sets = {4, 5, 7, 1 << 10, 1 << 30, Integer.MIN_VALUE, -1, Integer.MAX_VALUE};
         for (int set : sets) {
             Checks.throwsDue("13: another bit", ARGUMENT, () -> x.isPossible(set));
@@ -163,7 +155,7 @@ public final class PacksTest {
     }
 
     private static void possibleSets() {
-        RuleCrypts x = withPacks(4);
+        RuleCrypts x = Crypts.withPacks(4);
         x.setNeeds(0, 2);
         x.setNeeds(1, 4);
         boolean[] due = {true, false, false, false, true, false, true, true};
@@ -180,7 +172,7 @@ public final class PacksTest {
     }
 
     private static void orders() {
-        RuleCrypts x = withPacks(10);
+        RuleCrypts x = Crypts.withPacks(10);
         for (int place = 0; place < 10; place++) {
             Checks.due("14: without needs", x.orderAt(1023, place), place);
         }
@@ -206,7 +198,7 @@ public final class PacksTest {
     }
 
     private static void rules() {
-        RuleCrypts x = withPacks(3);
+        RuleCrypts x = Crypts.withPacks(3);
         for (int rule = 0; rule < 6; rule++) {
             Checks.due("15: at first", x.ruleOf(0, rule), FIRST[rule]);
             Checks.due("15: packs without changes", x.ruleOf(7, rule), FIRST[rule]);

@@ -32,19 +32,6 @@ public final class RunsTest {
         Checks.end();
     }
 
-    /** An object with a pack of these rules, and a day that has it; a first run makes its dungeon be had. */
-    private static RuleCrypts opened(int seed, int... rules) {
-        RuleCrypts x = new RuleCrypts();
-        x.pack();
-        x.pack();
-        for (int rule = 0; rule < rules.length; rule++) {
-            x.change(rule / 3, rule, true, rules[rule]);
-        }
-        x.open(seed, 3);
-        x.handIn(7, 0);
-        return x;
-    }
-
     private static int handIn(RuleCrypts x, int player, int score, List<Integer> keys) {
         for (int key : keys) {
             x.key(key);
@@ -163,7 +150,7 @@ public final class RunsTest {
 
     private static void walkingOut() {
         for (int seed = 0; seed < 12; seed++) {
-            RuleCrypts x = opened(seed, 20, 0, 1, 0, 1, 0);
+            RuleCrypts x = Crypts.grown(seed, 20, 0, 1, 0, 1, 0);
             List<Integer> keys = wayOut(x, 0);
             played("out", x, keys, 20, 2);
             played("at the last stairs", x, keys.subList(0, keys.size() - 1), 0, 0);
@@ -179,7 +166,7 @@ public final class RunsTest {
     }
 
     private static void wall() {
-        RuleCrypts x = opened(77, 0, 0, 1, 0, 1, 0);
+        RuleCrypts x = Crypts.grown(77, 0, 0, 1, 0, 1, 0);
         for (int key = 0; key < 4; key++) {
             boolean door = x.hasDoor(0, 0, 0, key);
             int run = handIn(x, 0, -1, List.of(REST, key));
@@ -190,7 +177,7 @@ public final class RunsTest {
     }
 
     private static void goingDownElsewhere() {
-        RuleCrypts x = opened(78, 3, 0, 1, 0, 1, 0);
+        RuleCrypts x = Crypts.grown(78, 3, 0, 1, 0, 1, 0);
         List<Integer> keys = wayTo(x, 0, 0, x.stairs(0, 0));
         int run = handIn(x, 0, 0, List.of(DOWN));
         Checks.due("10: down in the entry", x.judge(run), 0);
@@ -224,7 +211,7 @@ public final class RunsTest {
 
     private static void dying() {
         for (int seed = 0; seed < 12; seed++) {
-            RuleCrypts weak = opened(seed, 3, 20, 9, 0, 1, 9);
+            RuleCrypts weak = Crypts.grown(seed, 3, 20, 9, 0, 1, 9);
             int room = firstMonster(weak);
             int strength = weak.monster(0, 0, room);
             List<Integer> keys = wayTo(weak, 0, 0, room);
@@ -235,16 +222,16 @@ public final class RunsTest {
                 Checks.due("28: it does not count", weak.scoreOf(run), strength);
                 Checks.due("29: dead all the same", weak.endOf(run), 1);
             }
-            RuleCrypts even = opened(seed, 3, 20, 9, 0, strength, 0);
+            RuleCrypts even = Crypts.grown(seed, 3, 20, 9, 0, strength, 0);
             played("dead with a health of 0", even, keys, strength, 1);
-            RuleCrypts one = opened(seed, 3, 20, 9, 0, strength + 1, 0);
+            RuleCrypts one = Crypts.grown(seed, 3, 20, 9, 0, strength + 1, 0);
             played("alive with a health of 1", one, keys, strength, 0);
         }
     }
 
     private static void fightingOnce() {
         for (int seed = 0; seed < 12; seed++) {
-            RuleCrypts x = opened(seed, 3, 20, 9, 0, 50, 0);
+            RuleCrypts x = Crypts.grown(seed, 3, 20, 9, 0, 50, 0);
             int room = firstMonster(x);
             int strength = x.monster(0, 0, room);
             List<Integer> keys = wayTo(x, 0, 0, room);
@@ -260,7 +247,7 @@ public final class RunsTest {
 
     private static void treasures() {
         for (int seed = 0; seed < 12; seed++) {
-            RuleCrypts x = opened(seed, 3, 0, 1, 9, 10, 0);
+            RuleCrypts x = Crypts.grown(seed, 3, 0, 1, 9, 10, 0);
             for (int room = 1; room < 16; room++) {
                 List<Integer> keys = wayTo(x, 0, 0, room);
                 int due = 0;
@@ -284,7 +271,7 @@ public final class RunsTest {
     private static void treasureInTheEntry() {
         boolean seen = false;
         for (int seed = 0; seed < 20; seed++) {
-            RuleCrypts x = opened(seed, 3, 0, 1, 20, 10, 0);
+            RuleCrypts x = Crypts.grown(seed, 3, 0, 1, 20, 10, 0);
             int beside = x.hasDoor(0, 0, 0, 2) ? 1 : 4;
             int key = beside == 1 ? 2 : 3;
             int score = x.hasTreasure(0, 0, beside) ? 5 : 0;
@@ -302,7 +289,7 @@ public final class RunsTest {
     private static void treasureInTheEntryBelow() {
         boolean seen = false;
         for (int seed = 0; seed < 20; seed++) {
-            RuleCrypts x = opened(seed, 3, 0, 1, 20, 10, 0);
+            RuleCrypts x = Crypts.grown(seed, 3, 0, 1, 20, 10, 0);
             List<Integer> keys = wayTo(x, 0, 0, x.stairs(0, 0));
             int score = 0;
             int here = 0;
@@ -327,13 +314,13 @@ public final class RunsTest {
     private static void deadMenTakeNoTreasure() {
         boolean seen = false;
         for (int seed = 0; seed < 40; seed++) {
-            RuleCrypts x = opened(seed, 3, 20, 9, 20, 1, 0);
+            RuleCrypts x = Crypts.grown(seed, 3, 20, 9, 20, 1, 0);
             int room = x.hasDoor(0, 0, 0, 2) ? 1 : 4;
             int strength = x.monster(0, 0, room);
             if (strength > 0 && x.hasTreasure(0, 0, room)) {
                 seen = true;
                 played("dead beside a treasure", x, List.of(room == 1 ? 2 : 3), strength, 1);
-                RuleCrypts alive = opened(seed, 3, 20, 9, 20, 50, 0);
+                RuleCrypts alive = Crypts.grown(seed, 3, 20, 9, 20, 50, 0);
                 played("alive beside it", alive, List.of(room == 1 ? 2 : 3), strength + 5, 0);
             }
         }
@@ -342,7 +329,7 @@ public final class RunsTest {
 
     /** Healing fills up to the health of the rules: it tells whether a fight later is survived. */
     private static void resting() {
-        RuleCrypts x = opened(1, 3, 0, 1, 0, 10, 9);
+        RuleCrypts x = Crypts.grown(1, 3, 0, 1, 0, 10, 9);
         played("rests", x, List.of(REST, REST, REST), -3, 0);
         for (int i = 0; i < 60; i++) {
             x.key(REST);
@@ -350,12 +337,12 @@ public final class RunsTest {
         int run = x.handIn(0, -60);
         Checks.due("10: 60 rests", x.judge(run), -1);
         for (int seed = 0; seed < 12; seed++) {
-            RuleCrypts fight = opened(seed, 3, 20, 9, 0, 50, 0);
+            RuleCrypts fight = Crypts.grown(seed, 3, 20, 9, 0, 50, 0);
             int room = firstMonster(fight);
             int strength = fight.monster(0, 0, room);
             List<Integer> keys = new ArrayList<>(List.of(REST, REST));
             keys.addAll(wayTo(fight, 0, 0, room));
-            RuleCrypts most = opened(seed, 3, 20, 9, 0, strength, 9);
+            RuleCrypts most = Crypts.grown(seed, 3, 20, 9, 0, strength, 9);
             played("not above the health of the rules", most, keys, strength - 2, 1);
         }
         healing(0);
@@ -366,7 +353,7 @@ public final class RunsTest {
     /** Two fights in the first rooms, with rests between: how many it takes to live tells the healing. */
     private static void healing(int healing) {
         for (int seed = 0; seed < 60; seed++) {
-            RuleCrypts x = opened(seed, 3, 20, 9, 0, 50, 0);
+            RuleCrypts x = Crypts.grown(seed, 3, 20, 9, 0, 50, 0);
             int key = x.hasDoor(0, 0, 0, 2) ? 2 : 3;
             int first = x.monster(0, 0, STEP[key]);
             int next = STEP[key];
@@ -376,7 +363,7 @@ public final class RunsTest {
             }
             int second = x.monster(0, 0, next + STEP[onward]);
             int health = Math.max(first, second) + 1;
-            RuleCrypts tight = opened(seed, 3, 20, 9, 0, health, healing);
+            RuleCrypts tight = Crypts.grown(seed, 3, 20, 9, 0, health, healing);
             for (int rests = 0; rests < 6; rests++) {
                 List<Integer> keys = new ArrayList<>(List.of(key));
                 for (int i = 0; i < rests; i++) {
