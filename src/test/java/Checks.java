@@ -4,7 +4,26 @@ final class Checks {
     private static int wrong = 0;
     private static String about = "";
 
+    private static final long MOST_SECONDS = 300;
+
+    static {
+        Thread watch = new Thread(Checks::endIfLate);
+        watch.setDaemon(true);
+        watch.start();
+    }
+
     private Checks() {
+    }
+
+    /** A call that never ends is to fail the tests, not to keep them waiting. */
+    private static void endIfLate() {
+        try {
+            Thread.sleep(MOST_SECONDS * 1000);
+            System.out.println("not at its end after " + MOST_SECONDS + " seconds, " + about);
+            Runtime.getRuntime().halt(1);
+        } catch (InterruptedException e) {
+            Thread.currentThread().interrupt();
+        }
     }
 
     static void due(String call, long got, long want) {
