@@ -161,7 +161,7 @@ public final class RuleCrypts {
         if (dungeon == null) {
             throw new IllegalStateException("no dungeon can be had today");
         }
-        Run run = new Run(runCount, player, score, dungeon, Arrays.copyOf(draft, draftLength));
+        Run run = new Run(runCount, player, score, dungeon, Arrays.copyOf(draft, Math.max(draftLength, 0)));
         handedIn[runCount] = run;
         runCount++;
         draftLength = 0;
@@ -358,7 +358,7 @@ public final class RuleCrypts {
     }
 
     private static void requireRoom(int room) {
-        if (room < 0 || room >= ROOMS) {
+        if (!isRoom(room)) {
             throw new IndexOutOfBoundsException("there is no such room");
         }
     }
@@ -436,8 +436,13 @@ public final class RuleCrypts {
         return (bits >> bit & 1) != 0;
     }
 
+    /** From 0 to one less than the divisor, whatever is given: it is used as an index. */
     private static int remainder(int number, int divisor) {
-        return divisor > 0 ? number % divisor : 0;
+        return number > 0 && divisor > 0 ? number % divisor : 0;
+    }
+
+    private static boolean isRoom(int room) {
+        return room >= 0 && room < ROOMS;
     }
 
     private static int opposite(int direction) {
@@ -657,30 +662,31 @@ public final class RuleCrypts {
 
         /** The room behind a door; NONE if there is no door. */
         int behindDoor(int room, int direction) {
-            return holds(doors[room], direction) ? neighbour(room, direction) : NONE;
+            return isRoom(room) && holds(doors[room], direction) ? neighbour(room, direction) : NONE;
         }
 
         /** Finds the ways by all doors anew, as a check on those that the search found. */
         void measureByDoors() {
-            Arrays.fill(distancesByDoors, ROOMS);
-            distancesByDoors[entry] = 0;
+            for (int room = 0; room < ROOMS; room++) {
+                distancesByDoors[room] = room == entry ? 0 : ROOMS;
+            }
             boolean nearer = true;
             for (int round = 0; nearer && round < ROOMS; round++) {
                 nearer = false;
                 for (int room = 0; room < ROOMS; room++) {
-                    if (bringNearer(room)) {
+                    if (bringNearer(room, distancesByDoors[room] + 1)) {
                         nearer = true;
                     }
                 }
             }
         }
 
-        private boolean bringNearer(int room) {
+        /** Tells whether a room behind a door comes nearer by going over this one. */
+        private boolean bringNearer(int room, int over) {
             boolean nearer = false;
-            int over = distancesByDoors[room] + 1;
             for (int direction = 0; direction < DIRECTIONS; direction++) {
                 int next = behindDoor(room, direction);
-                if (next != NONE && over < distancesByDoors[next]) {
+                if (isRoom(next) && over < distancesByDoors[next]) {
                     distancesByDoors[next] = over;
                     nearer = true;
                 }
@@ -721,7 +727,7 @@ public final class RuleCrypts {
 
         private void openDoor(int room, int direction) {
             int next = neighbour(room, direction);
-            if (next != NONE) {
+            if (isRoom(room) && isRoom(next)) {
                 doors[room] |= 1 << direction;
                 doors[next] |= 1 << opposite(direction);
             }
@@ -751,28 +757,27 @@ public final class RuleCrypts {
         }
 
         private void measureBySearch() {
-            int[] reached = new int[ROOMS];
-            int reachedCount = 1;
-            Arrays.fill(distances, NONE);
-            reached[0] = entry;
-            distances[entry] = 0;
-            for (int i = 0; i < ROOMS && i < reachedCount; i++) {
-                int room = reached[i];
-                for (int direction = 0; direction < DIRECTIONS; direction++) {
-                    int next = behindDoor(room, direction);
-                    if (next != NONE && distances[next] == NONE && reachedCount < ROOMS) {
-                        distances[next] = distances[room] + 1;
-                        reached[reachedCount] = next;
-                        reachedCount++;
+            for (int room = 0; room < ROOMS; room++) {
+                distances[room] = room == entry ? 0 : NONE;
+            }
+            for (int distance = 0; distance < ROOMS; distance++) {
+                for (int room = 0; room < ROOMS; room++) {
+                    for (int direction = 0; distances[room] == distance && direction < DIRECTIONS; direction++) {
+                        int next = behindDoor(room, direction);
+                        if (isRoom(next) && distances[next] == NONE) {
+                            distances[next] = distance + 1;
+                        }
                     }
                 }
             }
         }
 
         private int farthestRoom() {
-            int farthest = 0;
-            for (int room = 1; room < ROOMS; room++) {
-                if (distances[room] > distances[farthest]) {
+            int farthest = entry;
+            int most = 0;
+            for (int room = 0; room < ROOMS; room++) {
+                if (distances[room] > most) {
+                    most = distances[room];
                     farthest = room;
                 }
             }
@@ -869,20 +874,20 @@ public final class RuleCrypts {
 
         private boolean go(int direction) {
             int next = floor == null ? NONE : floor.behindDoor(room, direction);
-            if (next == NONE) {
+            if (!isRoom(next)) {
                 return false;
             }
             room = next;
-            fight();
+            fight(monsters[next]);
+            monsters[next] = 0;
             if (end != DEAD) {
                 takeTreasure();
             }
             return true;
         }
 
-        private void fight() {
-            int strength = monsters[room];
-            monsters[room] = 0;
+        /** A strength of 0 is no monster: nothing comes of it. */
+        private void fight(int strength) {
             health -= strength;
             score += strength;
             if (health <= 0) {
